@@ -389,40 +389,33 @@ public final class Chipcardhouse {
             clock.tick++;
             for (int s = 0; s < shops.size(); s++) {
                 bringUp(shops.get(s));
-                bringDown(shops.get(s));
+                shops.get(s).hearWhatComes();
             }
             for (int s = 0; s < shops.size(); s++) {
-                shops.get(s).lookAtTime();
+                shops.get(s).giveUpOldest();
+                shops.get(s).repeatKept();
             }
         }
         return clock.tick;
     }
 
+    /** The switch: hands what comes up to the issuer, or stands in for it. */
     private void bringUp(Terminal shop) {
         Line up = shop.up;
-        for (int i = 0; i < up.count; i++) {
-            Message message = up.at(i);
+        int many = up.count;
+        for (int i = 0; i < many; i++) {
+            Message message = up.messages.get(i);
             if (message.comes == clock.tick) {
                 message.shop = shop.number;
-                if (exchange.isOpen) {
+                if (message.sort == ASK) {
+                    shop.down.put(exchange.isOpen ? issuer.answerTo(message) : exchange.answerTo(message));
+                } else if (exchange.isOpen) {
                     issuer.hear(message, shop);
-                } else if (message.sort == ASK) {
-                    shop.down.put(exchange.answerTo(message));
+                    shop.down.put(message);
                 }
             }
         }
         up.dropCome();
-    }
-
-    private void bringDown(Terminal shop) {
-        Line down = shop.down;
-        for (int i = 0; i < down.count; i++) {
-            Message message = down.at(i);
-            if (message.comes == clock.tick) {
-                shop.hear(message);
-            }
-        }
-        down.dropCome();
     }
 
     public int faults(int shop, int line, int how, int many)
@@ -1010,10 +1003,6 @@ public final class Chipcardhouse {
             isForged = other.isForged;
             return this;
         }
-
-        boolean isOfSamePayment(Message other) {
-            return card == other.card && counter == other.counter && amount == other.amount;
-        }
     }
 
     /** One direction between a terminal and the switch. */
@@ -1050,10 +1039,6 @@ public final class Chipcardhouse {
                 }
             }
             return NONE;
-        }
-
-        Message at(int place) {
-            return messages.get(place);
         }
 
         void dropCome() {
@@ -1095,6 +1080,15 @@ public final class Chipcardhouse {
             this.down = new Line(clock);
         }
 
+        /** Whether the issuer hears this BACK MONEY for the first time; it counts as heard from now on. */
+        boolean isFirstTime(int back) {
+            if (back < 0 || back >= isBackHeard.length || isBackHeard[back]) {
+                return false;
+            }
+            isBackHeard[back] = true;
+            return true;
+        }
+
         boolean mustAsk(int amount) {
             return amount > floor || pick > 0 && (paymentCount + 1) % pick == 0;
         }
@@ -1110,12 +1104,19 @@ public final class Chipcardhouse {
             up.put(message);
         }
 
-        void hear(Message message) {
-            if (message.sort == ANSWER) {
-                hearAnswer(message);
-            } else if (!message.isForged) {
-                forget(message);
+        void hearWhatComes() {
+            int many = down.count;
+            for (int i = 0; i < many; i++) {
+                Message message = down.messages.get(i);
+                if (message.comes == clock.tick) {
+                    if (message.sort == ANSWER) {
+                        hearAnswer(message);
+                    } else if (!message.isForged) {
+                        forget(message);
+                    }
+                }
             }
+            down.dropCome();
         }
 
         private void hearAnswer(Message answer) {
@@ -1141,19 +1142,8 @@ public final class Chipcardhouse {
             }
         }
 
-        void lookAtTime() {
-            giveUpOldest();
-            for (int i = 0; i < kept.size(); i++) {
-                Message message = kept.get(i);
-                if (clock.tick - message.latestPut >= REPEATING_TICKS) {
-                    message.latestPut = clock.tick;
-                    up.put(message);
-                }
-            }
-        }
-
         /** Payments are asking in the order of their numbers, so that those that wait longest stand first. */
-        private void giveUpOldest() {
+        void giveUpOldest() {
             int many = asking.size();
             for (int i = 0; i < many && !asking.isEmpty(); i++) {
                 Payment payment = asking.get(0);
@@ -1163,6 +1153,16 @@ public final class Chipcardhouse {
                 asking.remove(0);
                 payment.giveUp();
                 sendAndKeep(new Message(TAKE_BACK, payment.number));
+            }
+        }
+
+        void repeatKept() {
+            for (int i = 0; i < kept.size(); i++) {
+                Message message = kept.get(i);
+                if (clock.tick - message.latestPut >= REPEATING_TICKS) {
+                    message.latestPut = clock.tick;
+                    up.put(message);
+                }
             }
         }
     }
@@ -1235,6 +1235,27 @@ public final class Chipcardhouse {
             }
         }
 
+        void takeBack() {
+            if (!isPosted()) {
+                isTakenBack = true;
+            }
+            endHold();
+        }
+
+        /** Whether it was granted, and still is, by whom the record tells. */
+        boolean isGranted(Message granted) {
+            boolean didIssuer = answer != null && answer.what == YES;
+            Message told = granted.by == BY_SWITCH ? note : didIssuer ? ask : null;
+            return told != null && !isTakenBack && told.card == granted.card
+                    && told.counter == granted.counter && told.amount == granted.amount;
+        }
+
+        void hearBackMoney(int amount, Terminal from) {
+            if (isPosted() && shop == from && amount <= left) {
+                giveBack(amount);
+            }
+        }
+
         void giveBack(int amount) {
             if (payer != null && shop != null) {
                 left -= amount;
@@ -1280,28 +1301,24 @@ public final class Chipcardhouse {
             return known != null && known.isPosted();
         }
 
-        /** Hears what comes up, and lets its answer or its DONE go down. */
+        /** Hears what is DONE in any case. */
         void hear(Message message, Terminal shop) {
             Known known = findOrMake(message.payment);
             if (known == null) {
                 return;
             }
-            if (message.sort == ASK) {
-                shop.down.put(answerTo(message, known));
-                return;
-            }
             if (message.sort == TAKE_BACK) {
-                takeBack(known);
+                known.takeBack();
             } else if (message.sort == RECORD) {
                 hearRecord(message, known, shop);
-            } else {
-                hearBackMoney(message, known, shop);
+            } else if (shop.isFirstTime(message.number)) {
+                known.hearBackMoney(message.amount, shop);
             }
-            shop.down.put(message);
         }
 
-        private Message answerTo(Message ask, Known known) {
-            if (known.answer != null) {
+        Message answerTo(Message ask) {
+            Known known = findOrMake(ask.payment);
+            if (known != null && known.answer != null) {
                 return known.answer;
             }
             Card card = findCard(ask.card);
@@ -1314,20 +1331,22 @@ public final class Chipcardhouse {
                 answer.stamp = card.stamp(ask.counter, ask.amount, ask.shop, STAMP_ANSWERED);
                 answer.told = card.toTell;
                 card.toTell = 0;
-                if (reason == 0 || reason >= 4 && reason <= 6) {
-                    card.hearCounter(ask);
-                }
-                if (reason == 0) {
+            }
+            if (card != null && (reason == 0 || reason >= 4 && reason <= 6)) {
+                card.hearCounter(ask);
+            }
+            if (known != null) {
+                known.ask = new Message(ASK, ask.payment).becomeLike(ask);
+                known.answer = answer;
+                if (card != null && reason == 0) {
                     known.beHeld(ask.amount, card.account);
                 }
             }
-            known.ask = new Message(ASK, ask.payment).becomeLike(ask);
-            known.answer = answer;
             return answer;
         }
 
         private static int reasonAgainst(Message ask, Known known, Card card) {
-            if (known.isTakenBack || known.isPosted()) {
+            if (known != null && (known.isTakenBack || known.isPosted())) {
                 return 7;
             }
             if (card == null) {
@@ -1362,19 +1381,16 @@ public final class Chipcardhouse {
             }
         }
 
-        private static void takeBack(Known known) {
-            if (!known.isPosted()) {
-                known.isTakenBack = true;
-            }
-            known.endHold();
-        }
-
         private void hearRecord(Message record, Known known, Terminal shop) {
             if (known.isPosted()) {
                 return;
             }
             Card card = findCard(record.card);
-            if (card == null || card.postedWith(record.counter) != NONE || !isDue(record, known, card)) {
+            boolean isNew = card != null && card.postedWith(record.counter) == NONE;
+            boolean isDue = record.by == BY_CARD
+                    ? isNew && record.stamp == card.stamp(record.counter, record.amount, record.shop, STAMP_PAID)
+                    : known.isGranted(record);
+            if (card == null || !isNew || !isDue) {
                 rejectedCount += known.isRejected ? 0 : 1;
                 known.isRejected = true;
                 return;
@@ -1389,31 +1405,6 @@ public final class Chipcardhouse {
             shop.between += record.amount;
             card.postWith(record);
             postedCount++;
-        }
-
-        private static boolean isDue(Message record, Known known, Card card) {
-            if (record.by == BY_CARD) {
-                return record.stamp == card.stamp(record.counter, record.amount, record.shop, STAMP_PAID);
-            }
-            if (known.isTakenBack) {
-                return false;
-            }
-            if (record.by == BY_SWITCH) {
-                return known.note != null && record.isOfSamePayment(known.note);
-            }
-            return known.ask != null && known.answer != null && known.answer.what == YES
-                    && record.isOfSamePayment(known.ask);
-        }
-
-        private static void hearBackMoney(Message back, Known known, Terminal shop) {
-            boolean[] isHeard = shop.isBackHeard;
-            if (back.number < 0 || back.number >= isHeard.length || isHeard[back.number]) {
-                return;
-            }
-            isHeard[back.number] = true;
-            if (known.isPosted() && known.shop == shop && back.amount <= known.left) {
-                known.giveBack(back.amount);
-            }
         }
 
         // ---- the parts of the theorem
