@@ -31,11 +31,23 @@ final class Check {
                 wrong++;
                 System.out.println(what + " threw " + e + ", due is " + kind.getSimpleName());
             }
+            if (!isThrownByProgram(e)) {
+                wrong++;
+                System.out.println(what + " was thrown by the machine or the library: " + e);
+            }
         }
         if (!before.equals(stateOf(house))) {
             wrong++;
             System.out.println(what + " was refused and changed something");
         }
+    }
+
+    /** Whether a throw statement of the program made it, and not the machine or the library. */
+    static boolean isThrownByProgram(RuntimeException e) {
+        StackTraceElement[] trace = e.getStackTrace();
+        boolean isSurelyNot = e instanceof ArrayIndexOutOfBoundsException || e instanceof NullPointerException
+                || e instanceof ArithmeticException || e instanceof ClassCastException;
+        return !isSurelyNot && trace.length > 0 && trace[0].getClassName().startsWith("Chipcardhouse");
     }
 
     static void none(String what, Chipcardhouse house, Runnable call) {

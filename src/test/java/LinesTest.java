@@ -373,6 +373,20 @@ public final class LinesTest {
         house.passes(1);
         Check.due("taken back", house.accountAt(0, 1), 0);
         Check.due("taken back, it says", house.knows(0, 3), 1);
+        // of a number that a thief had posted ahead the note holds nothing
+        Chipcardhouse ahead = Check.house();
+        ahead.pay(0, 0, 100, 7);
+        ahead.forge(0, 0, 1);
+        ahead.passes(1);
+        ahead.setOpen(false);
+        ahead.pay(0, 0, 600, 7);
+        ahead.passes(2);
+        Check.due("granted by the switch", ahead.paymentAt(1, 8), 2);
+        Check.due("one note", ahead.setOpen(true), 1);
+        Check.due("it is heard", ahead.knows(1, 5), 1);
+        Check.due("the counter too", ahead.cardAt(0, 8), 1);
+        Check.due("nothing is held of what is POSTED", ahead.accountAt(0, 1), 0);
+        Check.due("no error", ahead.errors(), 0);
         // the issuer hears the take back while a note waits, for it opens and closes
         Chipcardhouse other = Check.house();
         other.setHouse(1000, 100, 4);

@@ -35,17 +35,18 @@ public final class ModelTest {
         }
     }
 
-    private static String answer(Supplier<Object> call) {
+    private static String answer(boolean isOfHouse, Supplier<Object> call) {
         try {
             return String.valueOf(call.get());
         } catch (RuntimeException e) {
-            return "throws " + e.getClass().getName();
+            boolean isGood = !isOfHouse || Check.isThrownByProgram(e);
+            return (isGood ? "throws " : "the machine or the library throws ") + e.getClass().getName();
         }
     }
 
     private String differs(String name, Supplier<Object> ofHouse, Supplier<Object> ofModel) {
-        String got = answer(ofHouse);
-        String due = answer(ofModel);
+        String got = answer(true, ofHouse);
+        String due = answer(false, ofModel);
         log.append(name).append(" = ").append(due).append('\n');
         return got.equals(due) ? null : name + " answered " + got + ", due is " + due;
     }
@@ -261,16 +262,16 @@ public final class ModelTest {
             int w = what;
             for (int i = 0; i < 8; i++) {
                 int n = i;
-                all.append(answer(ofHouse ? () -> house.cardAt(n, w) : () -> model.cardAt(n, w))).append(" card ").append(n).append(' ').append(w).append('\n');
-                all.append(answer(ofHouse ? () -> house.accountAt(n, w) : () -> model.accountAt(n, w))).append(" account ").append(n).append(' ').append(w).append('\n');
-                all.append(answer(ofHouse ? () -> house.shopAt(n, w) : () -> model.shopAt(n, w))).append(" shop ").append(n).append(' ').append(w).append('\n');
+                all.append(answer(ofHouse, ofHouse ? () -> house.cardAt(n, w) : () -> model.cardAt(n, w))).append(" card ").append(n).append(' ').append(w).append('\n');
+                all.append(answer(ofHouse, ofHouse ? () -> house.accountAt(n, w) : () -> model.accountAt(n, w))).append(" account ").append(n).append(' ').append(w).append('\n');
+                all.append(answer(ofHouse, ofHouse ? () -> house.shopAt(n, w) : () -> model.shopAt(n, w))).append(" shop ").append(n).append(' ').append(w).append('\n');
             }
             for (int i = 0; i < model.payments.size() + 8; i++) {
                 int n = i;
-                all.append(answer(ofHouse ? () -> house.paymentAt(n, w) : () -> model.paymentAt(n, w))).append(" payment ").append(n).append(' ').append(w).append('\n');
-                all.append(answer(ofHouse ? () -> house.knows(n, w) : () -> model.knows(n, w))).append(" knows ").append(n).append(' ').append(w).append('\n');
+                all.append(answer(ofHouse, ofHouse ? () -> house.paymentAt(n, w) : () -> model.paymentAt(n, w))).append(" payment ").append(n).append(' ').append(w).append('\n');
+                all.append(answer(ofHouse, ofHouse ? () -> house.knows(n, w) : () -> model.knows(n, w))).append(" knows ").append(n).append(' ').append(w).append('\n');
             }
-            all.append(answer(ofHouse ? () -> house.count(w) : () -> model.count(w))).append(" count ").append(w).append('\n');
+            all.append(answer(ofHouse, ofHouse ? () -> house.count(w) : () -> model.count(w))).append(" count ").append(w).append('\n');
         }
         all.append(ofHouse ? house.errors() : model.errors()).append(" errors\n");
         all.append(ofHouse ? house.checksum() : model.checksum()).append(" checksum\n");

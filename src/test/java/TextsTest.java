@@ -173,6 +173,39 @@ public final class TextsTest {
         Check.due("5 had come to the shop less a fee of 2.5 %", house.shopAt(0, 0), 5);
         Check.due("what is disputed is taken from what stands in between", house.shopAt(0, 1), -5);
         Check.due("the fee before", house.setHouse(900, 0, 2), 250);
+        Check.type(house, "fault 0 0 1 3;fault 0 1 0 4;house 650 0 1;close;pay 0 0 650 7;pay 0 0 651 7;wait 2;");
+        Check.due("seven commands", house.play(), 7);
+        Check.due("one is left to be doubled up", house.faults(0, 0, 1, 0), 1);
+        Check.due("four answers were lost", house.faults(0, 1, 0, 0), 0);
+        Check.due("650 is the stand-in amount", house.count(8), 1);
+        twoOfEach();
+    }
+
+    /** The numbers of a command go where they belong. */
+    private static void twoOfEach() {
+        Chipcardhouse house = Check.house();
+        Check.type(house, "account 77;shop 0 1;card 1 9 8 6;pay 1 1 5 9;pay 0 0 30 touch;pay 0 0 20 7;send 0;"
+                + "back 0 2 4;wait 2;dispute 1;tell 1 2;stolen 1;freeze 1;");
+        Check.due("thirteen commands", house.play(), 13);
+        Check.due("the account", house.accountAt(1, 0), 77);
+        Check.due("the payment's card", house.paymentAt(0, 1), 1);
+        Check.due("its shop", house.paymentAt(0, 2), 1);
+        Check.due("its amount", house.paymentAt(0, 3), 5);
+        Check.due("it is granted", house.paymentAt(0, 0), 2);
+        Check.due("the other shop's are posted", house.count(6), 2);
+        Check.due("4 went back", house.knows(2, 6), 16);
+        Check.due("30 are disputed", house.knows(1, 6), 0);
+        Check.due("card 1 is told", house.tells(1, 2), 1);
+        Check.due("card 1 is stolen", house.stolen(1), true);
+        Check.due("card 0 is not", house.stolen(0), false);
+        Check.due("account 1 is frozen", house.freeze(1, true), true);
+        Check.due("the greatest count", house.cardAt(1, 6), 8);
+        house.pay(1, 1, 6, 9);
+        house.pay(1, 0, 6, 9);
+        house.pay(1, 0, 1, 9);
+        Check.due("the pick of shop 1", house.paymentAt(3, 0), 1);
+        Check.due("shop 0 has none", house.paymentAt(4, 0), 0);
+        Check.due("the greatest sum", house.paymentAt(5, 0), 1);
     }
 
     private static void playLeavesOut() {
