@@ -2,6 +2,8 @@
 final class Check {
     static int wrong = 0;
     static int checks = 0;
+    // What the checks are about, ahead of what is printed.
+    static String about = "";
 
     private Check() {
     }
@@ -10,7 +12,7 @@ final class Check {
         checks++;
         if (got != due) {
             wrong++;
-            System.out.println(what + " answered " + got + ", due is " + due);
+            System.out.println(about + what + " answered " + got + ", due is " + due);
         }
     }
 
@@ -25,20 +27,20 @@ final class Check {
         try {
             call.run();
             wrong++;
-            System.out.println(what + " threw nothing, due is " + kind.getSimpleName());
+            System.out.println(about + what + " threw nothing, due is " + kind.getSimpleName());
         } catch (RuntimeException e) {
             if (e.getClass() != kind) {
                 wrong++;
-                System.out.println(what + " threw " + e + ", due is " + kind.getSimpleName());
+                System.out.println(about + what + " threw " + e + ", due is " + kind.getSimpleName());
             }
             if (!isThrownByProgram(e)) {
                 wrong++;
-                System.out.println(what + " was thrown by the machine or the library: " + e);
+                System.out.println(about + what + " was thrown by the machine or the library: " + e);
             }
         }
         if (!before.equals(stateOf(house))) {
             wrong++;
-            System.out.println(what + " was refused and changed something");
+            System.out.println(about + what + " was refused and changed something");
         }
     }
 
@@ -77,6 +79,9 @@ final class Check {
             for (int what = 0; what <= 5; what++) {
                 all.append(house.shopAt(i, what)).append(' ');
             }
+            for (int fault = 0; fault < 6; fault++) {
+                all.append(house.faults(i, fault / 3, fault % 3, 0)).append(' ');
+            }
             all.append(house.meanPayment(i)).append(' ');
         }
         for (int i = 0; i < house.count(4); i++) {
@@ -95,6 +100,7 @@ final class Check {
             }
         }
         all.append(house.fees()).append(' ').append(house.checksum()).append(' ').append(house.fault());
+        all.append(' ').append(house.grantedShare()).append(' ').append(house.errors()).append(' ');
         return all.append(' ').append(house.type(0)).toString();
     }
 
